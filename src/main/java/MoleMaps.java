@@ -611,7 +611,6 @@ public final class MoleMaps {
 
         void start() {
             due = KNOT;
-            first = 0;
             galleries = 0;
             shafts = 0;
         }
@@ -930,7 +929,7 @@ public final class MoleMaps {
         }
     }
 
-    /** All that changes by the minute or by hand: what an IMAGE keeps. */
+    /** All that changes by the minute or by hand: what an IMAGE keeps. Where a MAN is, man() sets. */
     private static final class Moment {
         int open;
         boolean moon;
@@ -943,7 +942,6 @@ public final class MoleMaps {
             open = galleries;
             moon = false;
             gas.fill(0);
-            place.fill(0);
             out = 0;
             gone = 0;
         }

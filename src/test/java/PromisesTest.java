@@ -35,6 +35,7 @@ public final class PromisesTest {
         next();
         rescue();
         walks();
+        walksByDraw();
         walksOfNobody();
         image();
         restore();
@@ -300,6 +301,12 @@ public final class PromisesTest {
         // Two ways to the same SHAFT count it once.
         knotIs(Check.mineOf("011,021,131,231,341;0940"), 3, NONE, 0, 1);
         knotIs(Check.mineOf("011,021,131,231,341,451;0950"), 3, NONE, 54, 1);
+        MoleMaps toZero = Check.mineOf("031,341,451,561;5466");
+        knotIs(toZero, 0, NONE, 48, 0);
+        knotIs(toZero, 3, NONE, 48, 0);
+        knotIs(Check.mineOf("051,011;5466"), 1, NONE, 48, 0);
+        // Six GALLERIES from one end to the other.
+        knotIs(Check.mineOf("651,541,431,321,211,061;1900"), 4, NONE, 54, 1);
         // A SHAFT behind a SHAFT is not a nearest one.
         knotIs(Check.mineOf("011,121;1420"), 0, NONE, 48, 0);
         knotIs(Check.mineOf("561;0018"), 0, 0, 0, 0);
@@ -659,6 +666,10 @@ public final class PromisesTest {
             due("18: of kind " + kind, kinds.fire(1, set), kind == 1 ? 16 : kind == 4 ? 0 : OUTSIDE);
         }
         due("18: a nose and a chief at one knot", kinds.fire(1, 18), 16);
+        MoleMaps first = Check.mineOf(LINE);
+        first.man(1, 1);
+        due("18: of man 0", first.fire(4, 1), 3);
+        due("18: not of man 0", first.fire(4, 0), 124);
     }
 
     private static void next() {
@@ -724,7 +735,29 @@ public final class PromisesTest {
         rescueIs(Check.mineOf("013,022;1120"), 0, 6, 2 + 7, 2, 1);
         // A way through a third KNOT is shorter than the gallery itself.
         rescueIs(Check.mineOf("019,021,211;0010"), 0, 2, 2, 1);
+        rescueOfStars();
         refusedRescues(star);
+    }
+
+    /** A star is come to by its rays' lengths: whatever these are, each order is the best of some star. */
+    private static void rescueOfStars() {
+        for (int coded = 0; coded < 3125; coded++) {
+            int[] length = new int[6];
+            int[] order = new int[5];
+            StringBuilder rays = new StringBuilder();
+            for (int knot = 1, rest = coded; knot <= 5; knot++, rest /= 5) {
+                length[knot] = 1 + rest % 5;
+                order[length[knot] - 1] = knot;
+                rays.append(knot == 1 ? "" : ",").append(0).append(knot).append(length[knot]);
+            }
+            boolean allUnlike = true;
+            for (int knot : order) {
+                allUnlike &= knot != 0;
+            }
+            if (allUnlike) {
+                rescueIs(Check.mineOf(rays + ";1020"), 0, 62, 1 + 4 + 9 + 16 + 25, order);
+            }
+        }
     }
 
     private static void refusedRescues(MoleMaps x) {
@@ -791,6 +824,29 @@ public final class PromisesTest {
         refused("21: least seed", x, OUTSIDE, () -> x.walks(1, LEAST, 0));
         for (int what : new int[] {-1, 4, LEAST, MOST}) {
             refused("21: what " + what, x, OUTSIDE, () -> x.walks(1, 0, what));
+        }
+    }
+
+    private static void walksByDraw() {
+        MoleMaps x = Check.mineOf("011d,021,031,041,051,061,311;1920");
+        x.man(0, 0);
+        for (int seed = 0; seed < 200; seed++) {
+            int gallery = (wouldBe(wouldBe(seed)) >> 16) % 6;
+            due("21: a gallery by a draw, " + seed, x.walks(1, seed, 1), gallery + 1);
+        }
+        x.door(0, false);
+        for (int seed = 0; seed < 200; seed++) {
+            int gallery = (wouldBe(wouldBe(seed)) >> 16) % 5;
+            due("21: of the open ones by a draw, " + seed, x.walks(1, seed, 1), gallery + 2);
+        }
+        MoleMaps y = Check.mineOf("011;1920");
+        for (int men = 1; men <= 6; men++) {
+            y.man(4, 0);
+            for (int seed = 300; seed < 400; seed++) {
+                boolean his = (wouldBe(seed) >> 16) % men == 0;
+                due("21: a man by a draw of " + men + ", " + seed, y.walks(1, seed, 1), his ? 1 : 0);
+                due("21: of one it is drawn, too", y.walks(1, seed, 3), wouldBe(wouldBe(seed)));
+            }
         }
     }
 
