@@ -3,11 +3,17 @@ import java.util.function.LongSupplier;
 /** Counts the answers that are not due; types texts onto THE PAGE. */
 final class Check {
     private int wrong;
+    private String sentence = "";
+
+    /** What follows holds this sentence of the document. */
+    void of(String words) {
+        sentence = "'" + words + "': ";
+    }
 
     void due(String call, long got, long want) {
         if (got != want) {
             wrong++;
-            System.out.println(call + " answered " + got + ", due is " + want);
+            System.out.println(sentence + call + " answered " + got + ", due is " + want);
         }
     }
 

@@ -101,6 +101,27 @@ public final class FaceTest {
         // One place alone touches an array, and it looks at each index first.
         String outsideRow = code.replaceAll("(?s)class Row \\{.*?class Page", "class Page");
         holds("arrays in Row alone", outsideRow.indexOf('[') < 0 && code.indexOf('[') >= 0);
+        shortMethods(text.split("\n"));
+    }
+
+    /** A method begins at a line that ends in ") {" and bears no more than the indent of a member; it ends at its "}". */
+    private static void shortMethods(String[] lines) {
+        int methods = 0;
+        for (int from = 0; from < lines.length; from++) {
+            String indent = lines[from].replaceAll("\\S.*", "");
+            String word = lines[from].trim().replaceAll("\\W.*", "");
+            boolean begins = lines[from].endsWith(") {") && !List.of("if", "for", "while", "switch").contains(word);
+            if (!begins || indent.length() > 8 || lines[from].trim().startsWith("}")) {
+                continue;
+            }
+            int to = from;
+            while (to < lines.length && !lines[to].equals(indent + "}")) {
+                to++;
+            }
+            methods++;
+            holds("line " + (from + 1) + " begins a method of " + (to - from + 1) + " lines", to - from < 60);
+        }
+        holds("methods were found: " + methods, methods > 50);
     }
 
     /** All calls of a run live in one room: what calls make is measured, not guessed. */
