@@ -758,6 +758,12 @@ public final class TermsTest {
         due("one", one.wayOut(1), 1);
         one.turn();
         due("one by moon", one.wayOut(1), 1);
+        for (int knot = 0; knot <= 6; knot++) {
+            int high = (knot + 1) % 7;
+            int low = (knot + 2) % 7;
+            MoleMaps between = Check.mineOf("" + high + knot + "1," + knot + low + "1;" + high + "9" + low + "0");
+            due("one, from between two shafts in " + knot, between.wayOut(knot), 1);
+        }
         due("two", Check.mineOf("041,141,451,521,361;091020").wayOut(5), 2);
         // 3 lies at 108, 4 between 3 and 0 at 96, 5 beside 0 at 84, 2 as far from 0 as from 6 at 66, 1 beside 6 at 48.
         MoleMaps four = Check.mineOf("161,121,251,501,541,401,431;640739");
@@ -919,6 +925,10 @@ public final class TermsTest {
         // Smelt behind 54, it is in 0 to 3; not smelt, it is in 4, 5 or 6.
         due("smelt", x.next(54, 1), 1);
         due("not smelt", x.next(54, 0), 4);
+        MoleMaps apart = Check.mineOf("301;3900");
+        apart.man(1, 0);
+        // Not smelt in 0 it is in 1, 2, 4, 5 or 6: a NOSE smells one of these, where it stands.
+        due("no knot is better than one of five", apart.next(1, 0), 1);
         MoleMaps six = Check.mineOf("061,161,261;09192960");
         // 0, 1, 2 and 6 are smelt in 6, four of seven; elsewhere one.
         due("in the last knot", six.next(1, 0), 6);
