@@ -43,6 +43,7 @@ public final class BoundsTest {
 
     private static void ofUse() {
         noMine();
+        whatWouldBeWithoutAMine();
         fiveHundredAndTwelveCalls();
     }
 
@@ -57,8 +58,32 @@ public final class BoundsTest {
         due("digest()", x.digest(), digestOf(0, 0, 0, 0, 0, 0, 0, 0, 0));
     }
 
+    private static void whatWouldBeWithoutAMine() {
+        of("---- what would be (STATE: no MINE).");
+        MoleMaps x = new MoleMaps();
+        Check.type(x, LINE);
+        for (int number : new int[] {LEAST, -1, 0, 1, 7, 10, 128, MOST}) {
+            due("smelt()", x.smelt(number, number), STATE);
+            due("doors()", x.doors(number, number), STATE);
+            due("wayOut()", x.wayOut(number), STATE);
+            due("fire()", x.fire(number, number), STATE);
+            due("next()", x.next(number, number), STATE);
+            due("rescue()", x.rescue(number, number, number), STATE);
+            due("walks()", x.walks(number, number, number), STATE);
+        }
+        due("nothing was done", x.count(8), 0);
+        due("a mine", x.mine(), 3);
+        due("smelt()", x.smelt(0, 1), 4);
+        due("doors()", x.doors(1, 0), 0);
+        due("wayOut()", x.wayOut(1), 1);
+        due("fire()", x.fire(1, 0), 127);
+        due("next()", x.next(0, 0), 0);
+        due("rescue()", x.rescue(1, 1, 0), 4);
+        due("walks()", x.walks(1, 1, 3), 1);
+    }
+
     private static void fiveHundredAndTwelveCalls() {
-        of("at most 512 calls after it has been made");
+        of("An object is used for at most 512 calls after it has been made; what later calls answer is free.");
         MoleMaps x = new MoleMaps();
         x.letters(Check.letters("341;0919"));
         x.mine();

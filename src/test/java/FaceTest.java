@@ -5,7 +5,10 @@ import java.lang.reflect.Modifier;
 import java.nio.file.Files;
 import java.nio.file.Path;
 import java.util.Arrays;
+import java.util.Comparator;
 import java.util.List;
+import java.util.Random;
+import java.util.Set;
 import java.util.TreeSet;
 import java.util.regex.Matcher;
 import java.util.regex.Pattern;
@@ -24,6 +27,9 @@ public final class FaceTest {
         "->", "::", "\\+ *\"", "\" *\\+", "Exact\\(", "\\bSystem\\.(?!arraycopy)", "@", "\\b(HashMap|Map|Set|Random|Object)\\b",
         "\\b(double|float)\\b", "[^\\x00-\\x7f]");
 
+    private static final List<Method> CALLS = Arrays.stream(MoleMaps.class.getDeclaredMethods())
+        .filter(m -> Modifier.isPublic(m.getModifiers())).sorted(Comparator.comparing(Method::getName)).toList();
+
     private static final Check check = new Check();
 
     public static void main(String[] args) throws Exception {
@@ -31,6 +37,7 @@ public final class FaceTest {
         insideClasses();
         source(Files.readString(Path.of(args[0])));
         makesNothing();
+        neverThrows();
         check.end("FaceTest");
     }
 
@@ -134,6 +141,43 @@ public final class FaceTest {
         calls(x);
         long made = room.getThreadAllocatedBytes(id) - before;
         holds("calls made " + made + " bytes", made < 4096);
+    }
+
+    /** No call ever throws, whatever it is given, be it behind 512 others or many more; what it answers then is free. */
+    private static void neverThrows() {
+        Random random = new Random(7);
+        MoleMaps x = new MoleMaps();
+        Set<String> made = new TreeSet<>();
+        for (int i = 0; i < 20000; i++) {
+            Method m = CALLS.get(random.nextInt(CALLS.size()));
+            Object[] given = new Object[m.getParameterCount()];
+            for (int p = 0; p < given.length; p++) {
+                given[p] = oneOf(m.getParameterTypes()[p], random);
+            }
+            String call = "call " + i + ": " + m.getName() + Arrays.toString(given);
+            try {
+                m.invoke(x, given);
+                made.add(m.getName());
+            } catch (ReflectiveOperationException thrown) {
+                holds(call + " threw " + thrown.getCause(), false);
+            }
+            if (i % 100 == 0) {
+                x.blank();
+                Check.type(x, "013d,124d,235d,346d,457,568d,609d,024,135d,246d;0918");
+                x.mine();
+            }
+        }
+        check.due("calls that were made", made.size(), FACE.size());
+    }
+
+    private static Object oneOf(Class<?> type, Random random) {
+        if (type == boolean.class) {
+            return random.nextBoolean();
+        }
+        int some = random.nextInt(4) == 0 ? random.nextInt() : random.nextInt(-2, 80) >> random.nextInt(5);
+        int[] ends = {Integer.MIN_VALUE, Integer.MAX_VALUE, -1, 1 << 31 - random.nextInt(32)};
+        int given = random.nextInt(8) == 0 ? ends[random.nextInt(ends.length)] : some;
+        return type == long.class ? (Object) (long) given : (Object) given;
     }
 
     private static void dearCalls() {

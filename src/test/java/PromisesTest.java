@@ -45,6 +45,11 @@ public final class PromisesTest {
         check.end("PromisesTest");
     }
 
+    /** What follows, up to the next promise, holds this one, which is quoted whole. */
+    private static void of(String promise) {
+        check.of(promise);
+    }
+
     private static void due(String call, long got, long want) {
         check.due(call, got, want);
     }
@@ -54,6 +59,7 @@ public final class PromisesTest {
     }
 
     private static void newObject() {
+        of("No MINE.");
         due("1: NONE", MoleMaps.NONE, NONE);
         due("1: UNKNOWN", MoleMaps.UNKNOWN, UNKNOWN);
         due("1: OUTSIDE", MoleMaps.OUTSIDE, OUTSIDE);
@@ -77,6 +83,9 @@ public final class PromisesTest {
     }
 
     private static void letters() {
+        of("Letters come behind THE PAGE, up to eight, told by their codes in the bytes of w, the lowest byte "
+            + "first, until a byte that is 0: how many THE PAGE has. OUTSIDE: a byte above 126, or one behind a 0 "
+            + "that is not 0; FULL: above 66.");
         MoleMaps x = new MoleMaps();
         due("2: letters(0)", x.letters(0), 0);
         due("2: two letters", x.letters('0' | '1' << 8), 2);
@@ -105,6 +114,7 @@ public final class PromisesTest {
     }
 
     private static void blank() {
+        of("THE PAGE is empty: how many letters it had.");
         MoleMaps x = new MoleMaps();
         due("3: blank() of none", x.blank(), 0);
         x.letters(Check.letters("014;"));
@@ -130,6 +140,8 @@ public final class PromisesTest {
     }
 
     private static void fault() {
+        of("The place (from 0) of the first letter of THE PAGE that no MINE has there, behind those ahead of "
+            + "it; how many letters it has, if there is none.");
         faultOf("", 0);
         faultOf("0", 1);
         faultOf("6", 1);
@@ -177,6 +189,8 @@ public final class PromisesTest {
     }
 
     private static void mine() {
+        of("THE PAGE is read as THE MINE (another one is gone, with MEN; it is DAY, no GAS, minute 0): how "
+            + "many GALLERIES; THE PAGE is empty then. STATE: it is none.");
         MoleMaps x = new MoleMaps();
         Check.type(x, "014;09");
         refused("5: one shaft", x, STATE, x::mine);
@@ -227,6 +241,8 @@ public final class PromisesTest {
     }
 
     private static void gallery() {
+        of("Of a GALLERY: what = 0, 1 its KNOTS (as told), 2 LENGTH, 3 whether it has a DOOR (1, 0), 4 whether "
+            + "it is open, 5 the KNOT into which air FLOWS through it (NONE: it is STILL). UNKNOWN; OUTSIDE.");
         MoleMaps x = Check.mineOf(LINE);
         galleryIs(x, 0, 0, 1, 4, 0, 1, 1);
         galleryIs(x, 1, 1, 2, 2, 1, 1, 2);
@@ -258,6 +274,8 @@ public final class PromisesTest {
     }
 
     private static void knot() {
+        of("Of a KNOT: what = 0 DRAUGHT (NONE: no SHAFT), 1 HEIGHT (NONE: STILL), 2 whether it BREATHES (1, "
+            + "0), 3 GAS. UNKNOWN (0 to 6; without a MINE, too); OUTSIDE.");
         MoleMaps x = Check.mineOf(LINE);
         knotIs(x, 0, 9, 108, 1, 0);
         knotIs(x, 1, NONE, 54, 1, 0);
@@ -314,6 +332,7 @@ public final class PromisesTest {
     }
 
     private static void door() {
+        of("A DOOR is opened or shut: whether it was open (1, 0). UNKNOWN; STATE: it has no DOOR.");
         MoleMaps x = Check.mineOf(LINE);
         due("8: opened, as it was", x.door(1, true), 1);
         due("8: shut", x.door(1, false), 1);
@@ -337,6 +356,7 @@ public final class PromisesTest {
     }
 
     private static void turn() {
+        of("DAY becomes MOON, or MOON DAY: whether it is MOON then (1, 0). STATE: no MINE.");
         MoleMaps x = Check.mineOf(LINE);
         due("9: moon", x.turn(), 1);
         due("9: count(4)", x.count(4), 1);
@@ -349,6 +369,7 @@ public final class PromisesTest {
     }
 
     private static void man() {
+        of("A MAN: his number. STATE: no MINE; OUTSIDE: kind; UNKNOWN: knot; FULL.");
         MoleMaps none = new MoleMaps();
         refused("10: no mine ahead of all", none, STATE, () -> none.man(5, 7));
         MoleMaps x = Check.mineOf(LINE);
@@ -373,6 +394,8 @@ public final class PromisesTest {
     }
 
     private static void about() {
+        of("Of a MAN: what = 0 KIND, 1 his KNOT, 2 whether he is OUT (1, 0), 3 how much GAS he BEARS. UNKNOWN; "
+            + "OUTSIDE.");
         MoleMaps x = Check.mineOf(LINE);
         int[] bears = {4, 4, 1, 2, 6};
         for (int kind = 0; kind < 5; kind++) {
@@ -396,6 +419,8 @@ public final class PromisesTest {
     }
 
     private static void as() {
+        of("A MAN taken as a KIND: his own number, not that of the KIND; NONE: he is none such (the cast "
+            + "fails). UNKNOWN; OUTSIDE.");
         MoleMaps x = Check.mineOf(LINE);
         // Numbers unlike the KINDS: 0 CHIEF, 1 MAN, 2 NOSE, 3 CANARY, 4 BOY.
         int[] kinds = {4, 0, 1, 2, 3};
@@ -419,6 +444,8 @@ public final class PromisesTest {
     }
 
     private static void walk() {
+        of("He WALKS a GALLERY: the KNOT where he is then. UNKNOWN: man, gallery; STATE: he is OUT, it is not "
+            + "at his KNOT, or it is shut for him.");
         MoleMaps x = Check.mineOf(LINE);
         x.man(0, 0);
         x.man(3, 2);
@@ -460,6 +487,7 @@ public final class PromisesTest {
     }
 
     private static void minutes() {
+        of("So many minutes go by: how many came to be OUT. OUTSIDE: minutes (1 to 60); STATE: no MINE.");
         MoleMaps none = new MoleMaps();
         refused("14: outside ahead of state", none, OUTSIDE, () -> none.minutes(0));
         refused("14: no mine", none, STATE, () -> none.minutes(60));
@@ -500,6 +528,7 @@ public final class PromisesTest {
     }
 
     private static void smelt() {
+        of("SMELT at a KNOT, of a FIRE in another one (0: there); NONE: never. STATE; UNKNOWN: fire, knot.");
         MoleMaps none = new MoleMaps();
         refused("15: no mine ahead of all", none, STATE, () -> none.smelt(7, 7));
         MoleMaps x = Check.mineOf(LINE);
@@ -530,6 +559,8 @@ public final class PromisesTest {
     }
 
     private static void doors() {
+        of("DOORS: what = 0 how few, 1 which GALLERIES, as bits; NONE: by none. STATE; OUTSIDE: set (bits of "
+            + "KNOTS), what; STATE: doors() was done 40 times ever (refusals do not count, all else does).");
         MoleMaps x = Check.mineOf(LINE);
         doorsAre(x, 0, 0, 0);
         doorsAre(x, 7, 0, 0);
@@ -595,6 +626,7 @@ public final class PromisesTest {
     }
 
     private static void wayOut() {
+        of("WAY OUT (0: it is in a SHAFT); NONE. STATE; UNKNOWN.");
         MoleMaps none = new MoleMaps();
         refused("17: no mine ahead of all", none, STATE, () -> none.wayOut(7));
         MoleMaps x = Check.mineOf("011,121,231,341;0945");
@@ -627,6 +659,7 @@ public final class PromisesTest {
     }
 
     private static void fire() {
+        of("FIRE, as bits. STATE; OUTSIDE: minutes (0 to 60), set (bits of MEN, NOSES alone).");
         MoleMaps none = new MoleMaps();
         refused("18: no mine ahead of all", none, STATE, () -> none.fire(61, 1));
         MoleMaps x = Check.mineOf(LINE);
@@ -673,6 +706,7 @@ public final class PromisesTest {
     }
 
     private static void next() {
+        of("NEXT. STATE; OUTSIDE, as fire().");
         MoleMaps none = new MoleMaps();
         refused("19: no mine ahead of all", none, STATE, () -> none.next(61, 1));
         MoleMaps x = Check.mineOf(LINE);
@@ -707,6 +741,8 @@ public final class PromisesTest {
     }
 
     private static void rescue() {
+        of("RESCUE: what = 0 the least risk, 10 and i the so-manieth KNOT (NONE); NONE: some can not be come "
+            + "to. STATE; UNKNOWN: from; OUTSIDE: set (bits of KNOTS, 5 at most), what (0, 10 to 14).");
         MoleMaps none = new MoleMaps();
         refused("20: no mine ahead of all", none, STATE, () -> none.rescue(7, 128, 1));
         MoleMaps x = Check.mineOf(LINE);
@@ -779,6 +815,8 @@ public final class PromisesTest {
     }
 
     private static void walks() {
+        of("WALKS: what = 0 how many are OUT then, 1 the KNOT of MAN 0 (NONE), 2 GAS of all KNOTS together, 3 "
+            + "the SEED then. STATE; OUTSIDE: times (1 to 60), seed (0 at least), what.");
         MoleMaps none = new MoleMaps();
         refused("21: no mine ahead of all", none, STATE, () -> none.walks(0, -1, 4));
         MoleMaps x = Check.mineOf("014,122d,015;0920");
@@ -859,6 +897,7 @@ public final class PromisesTest {
     }
 
     private static void image() {
+        of("An IMAGE is kept (one; the latest): how many minutes have gone. STATE: no MINE.");
         MoleMaps none = new MoleMaps();
         refused("22: no mine", none, STATE, none::image);
         refused("22: none was kept", none, STATE, none::restore);
@@ -873,6 +912,8 @@ public final class PromisesTest {
     }
 
     private static void restore() {
+        of("It goes on from the IMAGE: how many minutes have gone. STATE: none was kept, or there is another "
+            + "MINE, or MEN came, since.");
         MoleMaps x = Check.mineOf(LINE);
         x.man(0, 1);
         x.man(2, 3);
@@ -927,6 +968,8 @@ public final class PromisesTest {
     }
 
     private static void count() {
+        of("How many: 0 GALLERIES, 1 DOORS, 2 SHAFTS, 3 MEN, 4 whether it is MOON (1, 0), 5 minutes that have "
+            + "gone, 6 letters of THE PAGE, 7 how often a MINE was read, 8 how often doors() was done. OUTSIDE.");
         MoleMaps x = Check.mineOf(LINE);
         x.man(0, 0);
         x.man(0, 0);
@@ -959,6 +1002,10 @@ public final class PromisesTest {
     }
 
     private static void digest() {
+        of("h is 659, then for each of these numbers, in order, 31 times h, and it (as longs, wrapping): of "
+            + "each GALLERY what gallery() tells for 0 to 5; with a MINE of each KNOT what knot() tells for 0 to "
+            + "3, SMELT of a FIRE in it at KNOT 0, WAY OUT; of each MAN what about() tells for 0 to 3; letters of "
+            + "THE PAGE, each by its code; what count() tells for 0 to 8.");
         MoleMaps x = new MoleMaps();
         due("25: of nothing", x.digest(), after(659, 0, 0, 0, 0, 0, 0, 0, 0, 0));
         x.letters(Check.letters("z~"));

@@ -34,6 +34,8 @@ public final class RefusalsTest {
     }
 
     public static void main(String[] args) {
+        check.of("Refusals, of several the first as told by each call: UNKNOWN (a number names nothing), "
+            + "OUTSIDE (it is not as told), STATE (as told), FULL; they change nothing.");
         new RefusalsTest(new Facts("a new object", MoleMaps::new, 0, 0, false, 0)).hold();
         new RefusalsTest(new Facts("a full page, no mine", RefusalsTest::fullPage, 0, 0, false, 66)).hold();
         new RefusalsTest(new Facts("a mine just read", () -> Check.mineOf(LINE), 3, 0, false, 0)).hold();

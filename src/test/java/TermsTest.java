@@ -94,7 +94,7 @@ public final class TermsTest {
     }
 
     private static void oneToTenGalleries() {
-        of("one to ten GALLERIES");
+        of("THE MINE is a text: one to ten GALLERIES");
         isNone(";0919", 0);
         isMine("011;0919", 1);
         isMine(NINE + ";0919", 9);
@@ -179,10 +179,12 @@ public final class TermsTest {
     }
 
     private static void twoToSevenShafts() {
-        of("two to seven SHAFTS");
+        of("then \";\" and two to seven SHAFTS");
         isNone("011", 3);
         isNone("011;", 4);
         isNone("011;09", 6);
+        isNone("0110919", 3);
+        isNone("011,0919", 5);
         isMine("011;0919", 1);
         isMine("011;091929394959", 1);
         isMine("011;09192939495969", 1);
@@ -193,7 +195,7 @@ public final class TermsTest {
     }
 
     private static void sideBySide() {
-        of("SHAFTS, side by side");
+        of("two to seven SHAFTS, side by side");
         isNone("011;0919,29", 8);
         isNone("011;0919;29", 8);
         isNone("011;09,19", 6);
@@ -203,7 +205,7 @@ public final class TermsTest {
     }
 
     private static void draughtZeroToNine() {
-        of("a digit (a KNOT) and a digit (DRAUGHT, 0 to 9)");
+        of("each a digit (a KNOT) and a digit (DRAUGHT, 0 to 9)");
         takes("011;", "0123456");
         takes("011;5", "0123456789");
         takes("011;094", "0123456789");
@@ -229,6 +231,7 @@ public final class TermsTest {
     // ---- HEIGHTS
 
     private static void ofHeights() {
+        airComesIn();
         heightOfShafts();
         byOpenGalleries();
         nearestShafts();
@@ -245,8 +248,22 @@ public final class TermsTest {
         due("height of " + knot + " by day again in " + text, x.knot(knot, 1), byDay);
     }
 
+    private static void airComesIn() {
+        of("AIR comes in by SHAFTS of more DRAUGHT by DAY, of less by MOON.");
+        for (int zero = 0; zero <= 9; zero++) {
+            for (int six = 0; six <= 9; six++) {
+                MoleMaps x = Check.mineOf("061;0" + zero + "6" + six);
+                String draughts = " of draughts " + zero + " and " + six;
+                int byDay = zero > six ? 6 : zero < six ? 0 : NONE;
+                due("by day" + draughts, x.gallery(0, 5), byDay);
+                x.turn();
+                due("by moon" + draughts, x.gallery(0, 5), byDay == NONE ? NONE : 6 - byDay);
+            }
+        }
+    }
+
     private static void heightOfShafts() {
-        of("of a SHAFT 12 times its DRAUGHT (by MOON 12 times what 9 is more than it)");
+        of("HEIGHT of a KNOT: of a SHAFT 12 times its DRAUGHT (by MOON 12 times what 9 is more than it)");
         for (int draught = 0; draught <= 9; draught++) {
             heightIs("011;0" + draught + "60", 0, 12 * draught, 108 - 12 * draught);
             heightIs("011;006" + draught, 6, 12 * draught, 108 - 12 * draught);
@@ -254,7 +271,7 @@ public final class TermsTest {
     }
 
     private static void byOpenGalleries() {
-        of("by open GALLERIES (a GALLERY whose DOOR is open, or which has none)");
+        of("of another one, if it can be come to from some SHAFT by open GALLERIES (a GALLERY whose DOOR is open, or which has none)");
         MoleMaps x = Check.mineOf("021d,231;0510");
         due("a door that is open", x.knot(2, 1), 60);
         due("and a gallery that has none", x.knot(3, 1), 60);
@@ -414,7 +431,7 @@ public final class TermsTest {
     }
 
     private static void smokeGoesFar() {
-        of("it is also in each KNOT into which air FLOWS");
+        of("SMOKE: of a FIRE in a KNOT; behind each minute it is also in each KNOT into which air FLOWS");
         MoleMaps x = Check.mineOf(STAIRS);
         for (int fire = 0; fire <= 6; fire++) {
             for (int knot = 0; knot <= 6; knot++) {
@@ -462,6 +479,7 @@ public final class TermsTest {
         nineAtMost();
         zeroAgain();
         sixMen();
+        eachInAKnot();
         kindsZeroToFour();
         chiefIsANose();
         bearsGas();
@@ -534,8 +552,24 @@ public final class TermsTest {
         due("the first in another mine", x.man(0, 6), 0);
     }
 
+    private static void eachInAKnot() {
+        of("4 CHIEF, each in a KNOT.");
+        MoleMaps x = Check.mineOf(LINE);
+        int[] at = {6, 0, 6, 3, 1, 2};
+        for (int man = 0; man < 6; man++) {
+            x.man(man % 5, at[man]);
+        }
+        for (int man = 0; man < 6; man++) {
+            due("the knot of " + man, x.about(man, 1), at[man]);
+        }
+        due("one walks", x.walk(5, 1), 1);
+        for (int man = 0; man < 6; man++) {
+            due("the knot of " + man + " then", x.about(man, 1), man == 5 ? 1 : at[man]);
+        }
+    }
+
     private static void kindsZeroToFour() {
-        of("KINDS: 0 MAN, 1 NOSE, 2 CANARY, 3 BOY, 4 CHIEF");
+        of("MEN (6 at most, numbered) are of KINDS: 0 MAN, 1 NOSE, 2 CANARY, 3 BOY, 4 CHIEF");
         MoleMaps x = Check.mineOf(LINE);
         due("below", x.man(-1, 0), OUTSIDE);
         for (int kind = 0; kind <= 4; kind++) {
@@ -706,7 +740,7 @@ public final class TermsTest {
     }
 
     private static void allOfThemBreathe() {
-        of("for a set of KNOTS: the fewest DOORS");
+        of("DOORS for a set of KNOTS: the fewest DOORS");
         MoleMaps x = allShut("011d,341;0910");
         doorsAre(x, 0, 0, 0);
         doorsAre(x, 1, 1, 1);
@@ -742,7 +776,7 @@ public final class TermsTest {
     }
 
     private static void inAShaft() {
-        of("until it is in a SHAFT");
+        of("WAY OUT of a KNOT: always through the open GALLERY out of which air FLOWS into it (against the wind), the least of them, until it is in a SHAFT");
         MoleMaps x = Check.mineOf("011,231;09104050");
         due("at the upper end", x.wayOut(0), 0);
         due("at the lower end", x.wayOut(1), 0);
@@ -779,9 +813,13 @@ public final class TermsTest {
     }
 
     private static void leastOfThem() {
-        of("the open GALLERY out of which air FLOWS into it (against the wind), the least of them");
+        of("always through the open GALLERY out of which air FLOWS into it (against the wind), the least of them");
         due("the least leads to nowhere", Check.mineOf("618,242,468,145;1827").wayOut(4), NONE);
         due("the least leads out", Check.mineOf("145,618,242,468;1827").wayOut(4), 1);
+        // 6 lies behind 3; of the galleries into 3 the least comes from the SHAFT 2, the last one from 4.
+        due("the least of the second step, too", Check.mineOf("231,561,341,541,531,141,361,351;195022").wayOut(6), 2);
+        // 3 lies behind 6; the least gallery into 6 comes from 5, the other one from the SHAFT 4.
+        due("be it the longer way", Check.mineOf("651,511,641,451,301,631,601,521;290044").wayOut(3), 3);
     }
 
     private static void noneSuch() {
@@ -814,7 +852,7 @@ public final class TermsTest {
     }
 
     private static void allKnotsWithoutNoses() {
-        of("all KNOTS in which a FIRE could be");
+        of("FIRE: all KNOTS in which a FIRE could be");
         MoleMaps x = Check.mineOf(LINE);
         due("nobody", x.fire(0, 0), 127);
         due("nobody, behind 60", x.fire(60, 0), 127);
@@ -975,7 +1013,7 @@ public final class TermsTest {
     }
 
     private static void emptyAndFull() {
-        of("an order in which all KNOTS of a set are come to, one after the other, from a KNOT");
+        of("RESCUE: an order in which all KNOTS of a set are come to, one after the other, from a KNOT");
         MoleMaps x = Check.mineOf("011,121,231,341,451,561;0969");
         rescueIs(x, 3, 0, 0);
         rescueIs(x, 3, 8, 0, 3);
@@ -1009,7 +1047,7 @@ public final class TermsTest {
     }
 
     private static void gasAndOne() {
-        of("for each KNOT of the set its GAS and 1, times all LENGTH up to it, together");
+        of("risk: for each KNOT of the set its GAS and 1, times all LENGTH up to it, together");
         MoleMaps x = Check.mineOf("013,121;0919");
         rescueIs(x, 0, 6, 3 + 4, 1, 2);
         x.minutes(1);
@@ -1056,6 +1094,7 @@ public final class TermsTest {
     // ---- WALKS
 
     private static void ofWalks() {
+        asTheyWouldBe();
         drawsWrap();
         drawOfMen();
         noMenNoDraw();
@@ -1064,6 +1103,24 @@ public final class TermsTest {
         drawOfGalleries();
         noGalleryNoDraw();
         thenAMinute();
+    }
+
+    private static void asTheyWouldBe() {
+        of("WALKS by a SEED, as they would be");
+        MoleMaps x = Check.mineOf("011;0910");
+        x.man(0, 1);
+        x.man(2, 6);
+        x.minutes(1);
+        x.image();
+        long before = x.digest();
+        for (int what = 0; what <= 3; what++) {
+            due("walks(60, 5, " + what + ") once more", x.walks(60, 5, what), x.walks(60, 5, what));
+            due("nothing is so behind walks(60, 5, " + what + ")", x.digest(), before);
+        }
+        due("the canary would be out", x.walks(60, 5, 0), 1);
+        x.minutes(60);
+        due("the image is as it was", x.restore(), 1);
+        due("and all that it keeps", x.digest(), before);
     }
 
     private static int seedBehind(long seed, int draws) {
@@ -1079,7 +1136,7 @@ public final class TermsTest {
     }
 
     private static void drawsWrap() {
-        of("the next SEED each time: 1103515245 times it and 12345, its rest by 2 to the 31");
+        of("DRAWS: the next SEED each time: 1103515245 times it and 12345, its rest by 2 to the 31");
         MoleMaps x = Check.mineOf("011;0910");
         x.man(0, 0);
         for (int seed : new int[] {0, 1, 2, 65535, 65536, 1 << 30, MOST - 1, MOST}) {
@@ -1104,7 +1161,7 @@ public final class TermsTest {
     }
 
     private static void noMenNoDraw() {
-        of("a MAN by a DRAW of how many there are (none: nothing is drawn)");
+        of("so many times a MAN by a DRAW of how many there are (none: nothing is drawn)");
         MoleMaps x = Check.mineOf("011,341;0910");
         for (int seed : new int[] {0, 1, MOST}) {
             due("the seed of nobody", x.walks(60, seed, 3), seed);
@@ -1303,7 +1360,7 @@ public final class TermsTest {
     }
 
     private static void keepsNothingElse() {
-        of("minutes. Refusals");
+        of("An IMAGE keeps DOORS, DAY or MOON, GAS, where MEN are, who is OUT, minutes.");
         MoleMaps x = Check.mineOf(LINE);
         x.image();
         x.letters(Check.letters("xyz"));
