@@ -193,9 +193,10 @@ public final class ReadmeTest {
 
     // ---- commands
 
+    /** What goes wrong within is told as it comes; what is asked for is what they print. */
     private static Ended shell(String commands, Path where) throws Exception {
         Process p = new ProcessBuilder("bash", "-e", "-c", commands).directory(where.toFile())
-            .redirectErrorStream(true).start();
+            .redirectError(ProcessBuilder.Redirect.INHERIT).start();
         p.getOutputStream().close();
         String told = new String(p.getInputStream().readAllBytes(), StandardCharsets.UTF_8);
         return new Ended(p.waitFor(), told);
